@@ -72,7 +72,8 @@ public final class RosterSolve {
     }
 
     public int wish(int person, int day, int shift, boolean wants, int weight)
-            throws IllegalArgumentException, IndexOutOfBoundsException, IllegalStateException, UnsupportedOperationException {
+            throws IllegalArgumentException, IndexOutOfBoundsException, IllegalStateException,
+            UnsupportedOperationException {
         refuseUnknownPerson(person);
         refuseUnknownDay(day);
         refuseUnknown(shift, OFF, NIGHT);
@@ -464,7 +465,8 @@ public final class RosterSolve {
     private static final class Search {
         // A turn is a try, a way back from a cell that a try led to, the way back from the first cell, or the stop.
         private static final int MOST_TURNS = 2 * MOST_STEPS + 2;
-        private static final int NO_BEST = Integer.MAX_VALUE;
+        // Above every unmet sum that there can be.
+        private static final int NO_BEST = MOST_WISHES * MOST_WEIGHT + 1;
 
         private final Plan plan;
         private final int[] best;

@@ -53,6 +53,8 @@ final class Check {
             call.run();
         } catch (RuntimeException e) {
             thrown = e.getClass().getSimpleName();
+            // The machine's own exception of a division has the same class as the one that is due.
+            due(what + " divides by zero", "/ by zero".equals(e.getMessage()) ? 1 : 0, 0);
         }
         due(what + " throws", thrown, exception);
         due("what can be seen after " + what, look(x), before);
