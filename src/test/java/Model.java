@@ -1,7 +1,7 @@
 import java.util.ArrayList;
 import java.util.List;
 
-/** The document's words once more, as plainly as can be: everything is kept as it was told and judged anew each time. */
+/** The document's words once more, as plainly as can be: all is kept as it was told, and judged anew each time. */
 final class Model {
     private record Wish(int person, int day, int shift, boolean wants, int weight) {
     }
