@@ -13,6 +13,7 @@ public final class SolveTest {
         theBestSoFar();
         stepsRunOut();
         boundByWishes();
+        theHighestSum();
         needs();
         rests();
         mostAndNights();
@@ -133,6 +134,16 @@ public final class SolveTest {
         solves("wishes that can't both be met", x, 20000, 1);
         // Off, early: 4 tries each; late and night come to 3, which is not below 1.
         told("wishes that can't both be met", x, 1, 12, 3);
+    }
+
+    private static void theHighestSum() {
+        RosterSolve x = Check.made(1, 1);
+        for (int number = 0; number < 20; number++) {
+            x.wish(0, 0, 3, true, 100);
+        }
+        x.bar(0, 0, 3, true);
+        solves("no wish can be met", x, 20000, 2000);
+        told("no wish can be met", x, 1, 4, 1);
     }
 
     private static void needs() {
