@@ -1,10 +1,13 @@
+import java.util.function.Consumer;
+import java.util.function.Supplier;
+
 /** What the tests of the project share: answers that are due, and calls that must be refused. */
 final class Check {
-    private static final String UNKNOWN = "IllegalArgumentException";
-    private static final String RANGE = "IndexOutOfBoundsException";
-    private static final String STATE = "IllegalStateException";
-    private static final String ROOM = "UnsupportedOperationException";
-    private static final String ZERO = "ArithmeticException";
+    static final String UNKNOWN = "IllegalArgumentException";
+    static final String RANGE = "IndexOutOfBoundsException";
+    static final String STATE = "IllegalStateException";
+    static final String ROOM = "UnsupportedOperationException";
+    static final String ZERO = "ArithmeticException";
 
     private int checks = 0;
     private int wrong = 0;
@@ -25,64 +28,63 @@ final class Check {
         }
     }
 
-    void unknown(String what, RosterSolve x, Runnable call) {
-        refused(what, x, call, UNKNOWN);
+    void unknown(String what, Supplier<RosterSolve> start, Consumer<RosterSolve> call) {
+        refused(what, start, call, UNKNOWN);
     }
 
-    void range(String what, RosterSolve x, Runnable call) {
-        refused(what, x, call, RANGE);
+    void range(String what, Supplier<RosterSolve> start, Consumer<RosterSolve> call) {
+        refused(what, start, call, RANGE);
     }
 
-    void state(String what, RosterSolve x, Runnable call) {
-        refused(what, x, call, STATE);
+    void state(String what, Supplier<RosterSolve> start, Consumer<RosterSolve> call) {
+        refused(what, start, call, STATE);
     }
 
-    void room(String what, RosterSolve x, Runnable call) {
-        refused(what, x, call, ROOM);
+    void room(String what, Supplier<RosterSolve> start, Consumer<RosterSolve> call) {
+        refused(what, start, call, ROOM);
     }
 
-    void zero(String what, RosterSolve x, Runnable call) {
-        refused(what, x, call, ZERO);
+    void zero(String what, Supplier<RosterSolve> start, Consumer<RosterSolve> call) {
+        refused(what, start, call, ZERO);
     }
 
-    /** The calls must throw just this, and all that can be asked without a change must be answered as before. */
-    private void refused(String what, RosterSolve x, Runnable call, String exception) {
-        String before = look(x);
-        String thrown = "nothing";
+    /** Of two objects that are made alike one is refused the call; then both must answer all later calls alike. */
+    private void refused(String what, Supplier<RosterSolve> start, Consumer<RosterSolve> call, String exception) {
+        RosterSolve x = start.get();
+        due(what + " throws", thrown(x, call), exception);
+        due("what later calls show behind " + what, Probe.of(x), Probe.of(start.get()));
+    }
+
+    /** For an object that goes on being used: the call is refused, and what can be seen at once stays. */
+    void refusedHere(String what, RosterSolve x, Consumer<RosterSolve> call, String exception) {
+        String before = shifts(x);
+        due(what + " throws", thrown(x, call), exception);
+        due("the shifts behind " + what, shifts(x), before);
+    }
+
+    static String thrown(RosterSolve x, Consumer<RosterSolve> call) {
         try {
-            call.run();
+            call.accept(x);
         } catch (RuntimeException e) {
-            thrown = e.getClass().getSimpleName();
-            // The machine's own exception of a division has the same class as the one that is due.
-            due(what + " divides by zero", "/ by zero".equals(e.getMessage()) ? 1 : 0, 0);
+            // The machine's own exception of a division has the same class as the one that the document names.
+            return e.getClass().getSimpleName() + ("/ by zero".equals(e.getMessage()) ? " of the machine" : "");
         }
-        due(what + " throws", thrown, exception);
-        due("what can be seen after " + what, look(x), before);
+        return "nothing";
     }
 
-    static String look(RosterSolve x) {
-        StringBuilder seen = new StringBuilder();
-        for (int what = 0; what <= 4; what++) {
-            seen.append("count ").append(x.count(what)).append(' ');
-        }
-        for (int what = 0; what <= 2; what++) {
-            seen.append("solved ").append(x.solved(what)).append(' ');
-        }
-        seen.append("wrong ").append(x.wrong());
-        seen.append(" unmet ").append(x.unmet());
-        seen.append(" cost ").append(x.cost()).append(" shifts ").append(shifts(x));
-        for (int person = 0; person < x.count(0) && x.cost() > 0; person++) {
-            seen.append(" share ").append(x.share(person));
-        }
-        return seen.toString();
+    /** The numbers next to a range at both ends, and the farthest ones. */
+    static int[] outside(int first, int last) {
+        return new int[] {first - 1, last + 1, Integer.MIN_VALUE, Integer.MAX_VALUE};
     }
 
     /** A word for each person, a figure for each day. */
     static String shifts(RosterSolve x) {
         StringBuilder seen = new StringBuilder();
-        for (int person = 0; person < x.count(0); person++) {
+        int persons = x.count(0);
+        int days = x.count(1);
+        for (int person = 0; person < persons; person++) {
             seen.append(person == 0 ? "" : " ");
-            for (int day = 0; day < x.count(1); day++) {
+            for (int day = 0; day < days; day++) {
                 seen.append(x.shift(person, day));
             }
         }

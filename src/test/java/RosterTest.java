@@ -1,4 +1,4 @@
-/** Promises 12 to 19: swaps, what is asked of the roster, and editions. */
+/** Promises 12 to 19: swaps, what is asked of the roster, and editions. RosterEdgeTest has the boundary cases. */
 public final class RosterTest {
     private static final Check CHECK = new Check();
 
@@ -18,7 +18,6 @@ public final class RosterTest {
         unmet();
         cost();
         share();
-        shareRefusals();
         publish();
         publishAndDays();
         count();
@@ -39,19 +38,19 @@ public final class RosterTest {
         CHECK.due("a swap on one day alone", Check.shifts(x), "00 12 30");
         x.swap(1, 0, 0);
         CHECK.due("a swap back", Check.shifts(x), "10 02 30");
-        CHECK.state("a swap that leaves a need", x, () -> x.swap(0, 2, 0));
+        CHECK.refusedHere("a swap that leaves a need", x, y -> y.swap(0, 2, 0), Check.STATE);
         x.swap(0, 2, 1);
         CHECK.due("a swap of what is the same", Check.shifts(x), "10 02 30");
         x.bar(2, 1, 2, true);
-        CHECK.state("a swap to a barred shift", x, () -> x.swap(1, 2, 1));
+        CHECK.refusedHere("a swap to a barred shift", x, y -> y.swap(1, 2, 1), Check.STATE);
         x.bar(2, 1, 2, false);
-        CHECK.state("a swap that leaves too short a rest", x, () -> x.swap(1, 2, 1));
+        CHECK.refusedHere("a swap that leaves too short a rest", x, y -> y.swap(1, 2, 1), Check.STATE);
         x.rules(8, 7, 7);
         x.swap(1, 2, 1);
         CHECK.due("a swap under another rest", Check.shifts(x), "10 00 32");
         x.set(2, 0, 0);
         x.rules(8, 1, 0);
-        CHECK.state("a swap that leaves too many shifts", x, () -> x.swap(0, 2, 1));
+        CHECK.refusedHere("a swap that leaves too many shifts", x, y -> y.swap(0, 2, 1), Check.STATE);
         x.swap(0, 1, 0);
         CHECK.due("a swap that leaves not too many", Check.shifts(x), "00 10 02");
     }
@@ -60,22 +59,12 @@ public final class RosterTest {
         RosterSolve x = Check.made(3, 2);
         Check.give(x, 0, "111");
         x.freeze(1);
-        for (int person : new int[] {-1, 2, 6, Integer.MIN_VALUE, Integer.MAX_VALUE}) {
-            CHECK.unknown("swap of person " + person, x, () -> x.swap(person, 1, 1));
-            CHECK.unknown("swap with person " + person, x, () -> x.swap(0, person, 1));
-            CHECK.unknown("swap on a frozen day with person " + person, x, () -> x.swap(0, person, 0));
-        }
-        for (int day : new int[] {-1, 3, 7, Integer.MIN_VALUE, Integer.MAX_VALUE}) {
-            CHECK.unknown("swap on day " + day, x, () -> x.swap(0, 1, day));
-        }
-        CHECK.unknown("swap with oneself", x, () -> x.swap(1, 1, 1));
-        CHECK.unknown("swap with oneself on a frozen day", x, () -> x.swap(0, 0, 0));
-        CHECK.state("swap on a frozen day", x, () -> x.swap(0, 1, 0));
+        CHECK.refusedHere("swap on a frozen day", x, y -> y.swap(0, 1, 0), Check.STATE);
         x.swap(0, 1, 1);
         CHECK.due("swap behind the frozen day", Check.shifts(x), "101 010");
         x.need(2, 3, 1, 0);
-        CHECK.state("swap in a roster that stays wrong", x, () -> x.swap(0, 1, 1));
-        CHECK.state("swap of nothing in a roster that is wrong", x, () -> x.swap(1, 0, 1));
+        CHECK.refusedHere("swap in a roster that stays wrong", x, y -> y.swap(0, 1, 1), Check.STATE);
+        CHECK.refusedHere("swap of nothing in a roster that is wrong", x, y -> y.swap(1, 0, 1), Check.STATE);
         x.need(2, 3, 0, 0);
         x.bar(0, 2, 1, true);
         x.swap(0, 1, 2);
@@ -94,11 +83,6 @@ public final class RosterTest {
                 CHECK.due("shift", x.shift(person, day), (person * 3 + day * 5 + person * day) % 4);
             }
         }
-        for (int wrong : new int[] {-1, 7, Integer.MIN_VALUE, Integer.MAX_VALUE}) {
-            CHECK.unknown("shift of person " + wrong, x, () -> x.shift(wrong, 0));
-            CHECK.unknown("shift on day " + wrong, x, () -> x.shift(0, wrong));
-        }
-        CHECK.unknown("shift of person 6", x, () -> x.shift(6, 0));
     }
 
     private static void wrongNeeds() {
@@ -273,20 +257,6 @@ public final class RosterTest {
         CHECK.due("nearly nothing", x.share(1), 0);
     }
 
-    private static void shareRefusals() {
-        RosterSolve x = Check.made(2, 2);
-        x.set(0, 0, 3);
-        for (int person : new int[] {-1, 2, 6, Integer.MIN_VALUE, Integer.MAX_VALUE}) {
-            CHECK.unknown("share of person " + person, x, () -> x.share(person));
-        }
-        CHECK.zero("share when all rates are 0", x, () -> x.share(0));
-        x.person(0, 5);
-        CHECK.zero("share when all who cost are off", x, () -> x.share(2));
-        x.set(2, 1, 1);
-        CHECK.due("share", x.share(2), 1000);
-        CHECK.unknown("share of nobody", x, () -> x.share(3));
-    }
-
     private static void publish() {
         RosterSolve x = Check.made(3, 2);
         CHECK.due("all off", x.publish(), 0);
@@ -348,9 +318,6 @@ public final class RosterTest {
         int[] counts = {2, 5, 3, 4, 1};
         for (int what = 0; what <= 4; what++) {
             CHECK.due("count(" + what + ")", x.count(what), counts[what]);
-        }
-        for (int what : new int[] {-1, 5, Integer.MIN_VALUE, Integer.MAX_VALUE}) {
-            CHECK.unknown("count(" + what + ")", x, () -> x.count(what));
         }
         x.days(4);
         int[] afterDays = {2, 4, 0, 0, 1};

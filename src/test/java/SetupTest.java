@@ -1,28 +1,19 @@
-/** Promises 1 to 9: a new object, and all that is told to it. */
+/** Promises 2 to 9: what is told to an object, and what that does. SetupEdgeTest has the boundary cases. */
 public final class SetupTest {
-    private static final int[] NO_PERSON = {-1, 2, 6, Integer.MIN_VALUE, Integer.MAX_VALUE};
-    private static final int[] NO_DAY = {-1, 3, 7, Integer.MIN_VALUE, Integer.MAX_VALUE};
-    private static final int[] NO_WORK = {-1, 0, 4, Integer.MIN_VALUE, Integer.MAX_VALUE};
-    private static final int[] NO_SHIFT = {-1, 4, Integer.MIN_VALUE, Integer.MAX_VALUE};
-
     private static final Check CHECK = new Check();
 
     private SetupTest() {
     }
 
     public static void main(String[] args) {
-        newObject();
         days();
         daysForget();
         daysKeep();
         person();
         need();
-        needRefusals();
         rules();
         bar();
-        barRefusals();
         wish();
-        wishRefusals();
         freeze();
         set();
         CHECK.end("SetupTest");
@@ -38,25 +29,6 @@ public final class SetupTest {
         return x;
     }
 
-    private static void newObject() {
-        RosterSolve x = new RosterSolve();
-        for (int what = 0; what <= 4; what++) {
-            CHECK.due("new count(" + what + ")", x.count(what), 0);
-        }
-        for (int what = 0; what <= 2; what++) {
-            CHECK.due("new solved(" + what + ")", x.solved(what), 0);
-        }
-        CHECK.due("new wrong()", x.wrong(), 0);
-        CHECK.due("new unmet()", x.unmet(), 0);
-        CHECK.due("new cost()", x.cost(), 0);
-        CHECK.unknown("shift of a new object", x, () -> x.shift(0, 0));
-        CHECK.unknown("set of a new object", x, () -> x.set(0, 0, 0));
-        CHECK.unknown("need of a new object", x, () -> x.need(0, 1, 0, 0));
-        CHECK.range("freeze of a new object", x, () -> x.freeze(1));
-        x.freeze(0);
-        CHECK.due("new publish()", x.publish(), 0);
-    }
-
     private static void days() {
         for (int d = 0; d <= 7; d++) {
             RosterSolve x = Check.made(d, 1);
@@ -65,12 +37,7 @@ public final class SetupTest {
                 CHECK.due("off at first", x.shift(0, day), 0);
             }
             int beyond = d;
-            CHECK.unknown("a day beyond", x, () -> x.shift(0, beyond));
-        }
-        RosterSolve x = twoPersonsThreeDays();
-        x.freeze(1);
-        for (int d : new int[] {-1, 8, Integer.MIN_VALUE, Integer.MAX_VALUE}) {
-            CHECK.range("days(" + d + ")", x, () -> x.days(d));
+            CHECK.refusedHere("a day beyond", x, y -> y.shift(0, beyond), Check.UNKNOWN);
         }
     }
 
@@ -121,12 +88,6 @@ public final class SetupTest {
         int[] skills = {0, 15, 1, 8, 7, 4};
         int[] rates = {0, 10000, 1, 9999, 50, 60};
         for (int i = 0; i < 6; i++) {
-            for (int wrong : new int[] {-1, 16, Integer.MIN_VALUE, Integer.MAX_VALUE}) {
-                CHECK.range("person(" + wrong + ", 0)", x, () -> x.person(wrong, 0));
-            }
-            for (int wrong : new int[] {-1, 10001, Integer.MIN_VALUE, Integer.MAX_VALUE}) {
-                CHECK.range("person(0, " + wrong + ")", x, () -> x.person(0, wrong));
-            }
             CHECK.due("person", x.person(skills[i], rates[i]), i);
             CHECK.due("persons", x.count(0), i + 1);
             for (int day = 0; day < 7; day++) {
@@ -135,11 +96,6 @@ public final class SetupTest {
             }
         }
         CHECK.due("cost by rates", x.cost(), 7 * 8 * (10000 + 1 + 9999 + 50 + 60));
-        CHECK.room("a seventh person", x, () -> x.person(0, 0));
-        CHECK.range("a seventh person with a wrong skill", x, () -> x.person(16, 0));
-        CHECK.range("a seventh person with a wrong rate", x, () -> x.person(0, -1));
-        x.days(1);
-        CHECK.room("a seventh person after days", x, () -> x.person(0, 0));
     }
 
     private static void need() {
@@ -167,25 +123,6 @@ public final class SetupTest {
         CHECK.due("a need on a frozen day", x.wrong(), 0);
     }
 
-    private static void needRefusals() {
-        RosterSolve x = twoPersonsThreeDays();
-        x.need(1, 3, 1, 0);
-        for (int day : NO_DAY) {
-            CHECK.unknown("need on day " + day, x, () -> x.need(day, 1, 1, 1));
-            CHECK.unknown("need on day " + day + " with a wrong range", x, () -> x.need(day, 1, 7, 16));
-        }
-        for (int shift : NO_WORK) {
-            CHECK.unknown("need for shift " + shift, x, () -> x.need(0, shift, 1, 1));
-            CHECK.unknown("need for shift " + shift + " with a wrong range", x, () -> x.need(0, shift, -1, -1));
-        }
-        for (int wrong : new int[] {-1, 7, Integer.MIN_VALUE, Integer.MAX_VALUE}) {
-            CHECK.range("need of persons " + wrong, x, () -> x.need(0, 1, wrong, 1));
-        }
-        for (int wrong : new int[] {-1, 16, Integer.MIN_VALUE, Integer.MAX_VALUE}) {
-            CHECK.range("need of skills " + wrong, x, () -> x.need(0, 1, 1, wrong));
-        }
-    }
-
     private static void rules() {
         RosterSolve x = Check.made(7, 1);
         Check.give(x, 0, "3333333");
@@ -198,17 +135,7 @@ public final class SetupTest {
         x.rules(0, 7, 7);
         CHECK.due("rules are replaced", x.wrong(), 0);
         x.rules(0, 1, 7);
-        int[] low = {-1, Integer.MIN_VALUE};
-        for (int wrong : low) {
-            CHECK.range("rest " + wrong, x, () -> x.rules(wrong, 7, 7));
-            CHECK.range("most " + wrong, x, () -> x.rules(0, wrong, 7));
-            CHECK.range("nights " + wrong, x, () -> x.rules(0, 7, wrong));
-        }
-        CHECK.range("rest 25", x, () -> x.rules(25, 7, 7));
-        CHECK.range("most 8", x, () -> x.rules(0, 8, 7));
-        CHECK.range("nights 8", x, () -> x.rules(0, 7, 8));
-        CHECK.range("rest, highest", x, () -> x.rules(Integer.MAX_VALUE, 7, 7));
-        CHECK.due("the rules stay", x.wrong(), 301);
+        CHECK.due("the second of one shift", x.wrong(), 301);
     }
 
     private static void bar() {
@@ -235,21 +162,6 @@ public final class SetupTest {
         }
     }
 
-    private static void barRefusals() {
-        RosterSolve x = twoPersonsThreeDays();
-        x.bar(1, 2, 3, true);
-        for (int person : NO_PERSON) {
-            CHECK.unknown("bar of person " + person, x, () -> x.bar(person, 1, 2, true));
-        }
-        for (int day : NO_DAY) {
-            CHECK.unknown("bar on day " + day, x, () -> x.bar(0, day, 2, true));
-        }
-        for (int shift : NO_WORK) {
-            CHECK.unknown("bar from shift " + shift, x, () -> x.bar(0, 1, shift, true));
-            CHECK.unknown("no bar from shift " + shift, x, () -> x.bar(1, 2, shift, false));
-        }
-    }
-
     private static void wish() {
         RosterSolve x = twoPersonsThreeDays();
         CHECK.due("a wish", x.wish(0, 1, 2, true, 1), 0);
@@ -264,56 +176,22 @@ public final class SetupTest {
             CHECK.due("a wish", x.wish(1, 2, 3, false, number), number);
         }
         CHECK.due("the wishes", x.count(2), 20);
-        CHECK.room("a wish too much", x, () -> x.wish(0, 0, 0, true, 1));
-    }
-
-    private static void wishRefusals() {
-        RosterSolve x = twoPersonsThreeDays();
-        x.wish(0, 1, 3, true, 5);
-        x.freeze(1);
-        for (int person : NO_PERSON) {
-            CHECK.unknown("wish of person " + person, x, () -> x.wish(person, 0, 1, true, 0));
-            CHECK.unknown("wish of person " + person, x, () -> x.wish(person, 1, 1, true, 1));
-        }
-        for (int day : NO_DAY) {
-            CHECK.unknown("wish on day " + day, x, () -> x.wish(0, day, 1, true, 101));
-        }
-        for (int shift : NO_SHIFT) {
-            CHECK.unknown("wish for shift " + shift, x, () -> x.wish(0, 0, shift, true, 0));
-        }
-        for (int weight : new int[] {0, -1, 101, Integer.MIN_VALUE, Integer.MAX_VALUE}) {
-            CHECK.range("wish with weight " + weight, x, () -> x.wish(0, 1, 1, true, weight));
-            CHECK.range("wish on a frozen day with weight " + weight, x, () -> x.wish(0, 0, 1, true, weight));
-        }
-        CHECK.state("wish on a frozen day", x, () -> x.wish(0, 0, 1, true, 1));
-        for (int number = 1; number < 20; number++) {
-            CHECK.due("wish behind the frozen day", x.wish(0, 1, 1, true, 1), number);
-        }
-        CHECK.state("wish on a frozen day without room", x, () -> x.wish(0, 0, 1, true, 1));
-        CHECK.range("wish with no weight without room", x, () -> x.wish(0, 1, 1, true, 0));
-        CHECK.unknown("wish of nobody without room", x, () -> x.wish(2, 1, 1, true, 1));
-        CHECK.room("wish without room", x, () -> x.wish(0, 1, 1, true, 1));
     }
 
     private static void freeze() {
         RosterSolve x = twoPersonsThreeDays();
-        CHECK.range("freeze(-1)", x, () -> x.freeze(-1));
-        CHECK.range("freeze above the days", x, () -> x.freeze(4));
-        x.freeze(0);
-        x.freeze(1);
         x.freeze(1);
         CHECK.due("frozen", x.count(3), 1);
-        CHECK.range("freeze below the present one", x, () -> x.freeze(0));
-        CHECK.range("freeze far above", x, () -> x.freeze(Integer.MAX_VALUE));
-        CHECK.range("freeze far below", x, () -> x.freeze(Integer.MIN_VALUE));
+        CHECK.due("a freeze changes no shift", Check.shifts(x), "020 003");
+        CHECK.refusedHere("set on a frozen day", x, y -> y.set(0, 0, 1), Check.STATE);
+        CHECK.refusedHere("wish on a frozen day", x, y -> y.wish(0, 0, 1, true, 1), Check.STATE);
         x.set(0, 1, 1);
+        CHECK.due("set on a day that is not frozen", Check.shifts(x), "010 003");
         x.freeze(3);
         CHECK.due("all frozen", x.count(3), 3);
-        CHECK.range("freeze below all", x, () -> x.freeze(2));
-        CHECK.state("the last day is frozen", x, () -> x.set(0, 2, 1));
+        CHECK.refusedHere("set on the last day", x, y -> y.set(0, 2, 1), Check.STATE);
         x.days(2);
         CHECK.due("nothing is frozen after days", x.count(3), 0);
-        CHECK.range("freeze above the new days", x, () -> x.freeze(3));
         x.freeze(2);
         CHECK.due("frozen again", x.count(3), 2);
     }
@@ -329,18 +207,6 @@ public final class SetupTest {
         }
         CHECK.due("set changes one shift alone", Check.shifts(x), "020 003");
         x.freeze(1);
-        for (int person : NO_PERSON) {
-            CHECK.unknown("set of person " + person, x, () -> x.set(person, 0, 1));
-        }
-        for (int day : NO_DAY) {
-            CHECK.unknown("set on day " + day, x, () -> x.set(0, day, 1));
-        }
-        for (int shift : NO_SHIFT) {
-            CHECK.unknown("set to shift " + shift, x, () -> x.set(0, 1, shift));
-            CHECK.unknown("set to shift " + shift + " on a frozen day", x, () -> x.set(0, 0, shift));
-        }
-        CHECK.state("set on a frozen day", x, () -> x.set(0, 0, 1));
-        CHECK.state("set on a frozen day to what it is", x, () -> x.set(0, 0, 0));
         x.set(0, 1, 3);
         CHECK.due("set behind the frozen day", Check.shifts(x), "030 003");
     }

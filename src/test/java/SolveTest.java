@@ -1,4 +1,4 @@
-/** Promises 10 and 11: the search, its steps and what it tells. */
+/** Promises 10 and 11: the search, its steps and what it tells. SolveEdgeTest has the boundary cases. */
 public final class SolveTest {
     private static final Check CHECK = new Check();
 
@@ -6,14 +6,10 @@ public final class SolveTest {
     }
 
     public static void main(String[] args) {
-        beforeTheFirst();
-        refusals();
-        withoutPersonsOrDays();
         stepsOfOneCell();
         theBestSoFar();
         stepsRunOut();
         boundByWishes();
-        theHighestSum();
         needs();
         rests();
         mostAndNights();
@@ -37,46 +33,6 @@ public final class SolveTest {
         CHECK.due(what + ": exact", x.solved(0), exact);
         CHECK.due(what + ": steps", x.solved(1), steps);
         CHECK.due(what + ": right rosters", x.solved(2), rosters);
-    }
-
-    private static void beforeTheFirst() {
-        RosterSolve x = Check.made(1, 1);
-        told("before the first", x, 0, 0, 0);
-        for (int what : new int[] {-1, 3, Integer.MIN_VALUE, Integer.MAX_VALUE}) {
-            CHECK.unknown("solved(" + what + ")", x, () -> x.solved(what));
-        }
-    }
-
-    private static void refusals() {
-        RosterSolve x = Check.made(1, 1);
-        x.set(0, 0, 2);
-        x.solve(2);
-        x.set(0, 0, 2);
-        for (int steps : new int[] {-1, 20001, Integer.MIN_VALUE, Integer.MAX_VALUE}) {
-            CHECK.range("solve(" + steps + ")", x, () -> x.solve(steps));
-        }
-        told("after refusals", x, 0, 2, 1);
-    }
-
-    private static void withoutPersonsOrDays() {
-        RosterSolve x = new RosterSolve();
-        solves("nothing at all", x, 0, 0);
-        told("nothing at all", x, 1, 0, 1);
-        x.days(7);
-        solves("no persons", x, 9, 0);
-        told("no persons", x, 1, 0, 1);
-        x.need(6, 3, 1, 0);
-        solves("no persons, a need", x, 9, -1);
-        told("no persons, a need", x, 1, 0, 0);
-        x.need(6, 3, 0, 1);
-        solves("no persons, a need of a skill", x, 0, -1);
-        x.need(6, 3, 0, 0);
-        solves("no persons, no need any more", x, 0, 0);
-        x.days(0);
-        x.person(0, 0);
-        x.rules(24, 0, 0);
-        solves("no days", x, 0, 0);
-        told("no days", x, 1, 0, 1);
     }
 
     private static void stepsOfOneCell() {
@@ -134,16 +90,6 @@ public final class SolveTest {
         solves("wishes that can't both be met", x, 20000, 1);
         // Off, early: 4 tries each; late and night come to 3, which is not below 1.
         told("wishes that can't both be met", x, 1, 12, 3);
-    }
-
-    private static void theHighestSum() {
-        RosterSolve x = Check.made(1, 1);
-        for (int number = 0; number < 20; number++) {
-            x.wish(0, 0, 3, true, 100);
-        }
-        x.bar(0, 0, 3, true);
-        solves("no wish can be met", x, 20000, 2000);
-        told("no wish can be met", x, 1, 4, 1);
     }
 
     private static void needs() {
