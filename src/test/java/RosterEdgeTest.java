@@ -28,6 +28,7 @@ public final class RosterEdgeTest {
         publishPersonsThatNeverWere();
         publishDaysThatNeverWere();
         publishDaysThatAreNotNow();
+        publishSolvedWithFewerDays();
         publishAndDaysAlone();
         count();
         countEnds();
@@ -449,6 +450,22 @@ public final class RosterEdgeTest {
         x.days(3);
         Check.give(x, 0, "100");
         CHECK.due("all days were published as off", x.publish(), 1);
+    }
+
+    // Promise 18, the same sentence: what an earlier search found on days that are not now is not published either.
+    private static void publishSolvedWithFewerDays() {
+        RosterSolve x = Check.made(7, 1);
+        x.need(6, 3, 1, 0);
+        CHECK.due("a night on the last day", x.solve(20000), 0);
+        CHECK.due("a night on the last day", x.shift(0, 6), 3);
+        x.days(3);
+        CHECK.due("fewer days", x.solve(20000), 0);
+        CHECK.due("fewer days, all off", x.publish(), 0);
+        x.days(0);
+        CHECK.due("no days", x.solve(0), 0);
+        CHECK.due("no days, nothing", x.publish(), 0);
+        x.days(7);
+        CHECK.due("the last day was published as off", x.publish(), 0);
     }
 
     // Promise 18. "days() alone leaves what was published".
